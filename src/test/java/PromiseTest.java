@@ -135,6 +135,15 @@ public final class PromiseTest {
         due("count(3)", x.count(3), 2);
         due("wipe(1)", x.wipe(1), 2);
         due("window(0)", x.window(0), 1);
+        say(x, 0, "cp9;bm2");
+        say(x, 1, SHUT);
+        queue(x, 2, 0, 1);
+        x.wipe(0);
+        queue(x, 2);
+        say(x, 0, "cp3;cm1");
+        queue(x, 1);
+        queue(x, 2, 0, 1);
+        due("person(0, 2)", x.person(0, 2), 3);
     }
 
     private static void undo() {
@@ -282,6 +291,11 @@ public final class PromiseTest {
         due("event again", x.event(2, 1, 0), 2);
         queue(x, 1, 1, 2, 0);
         due("back()", x.back(), 1);
+        due("in another minute", x.event(1, 3, 2), 2);
+        queue(x, 1, 0, 1, 2);
+        queue(x, 3, 2, 0, 1);
+        due("back()", x.back(), 1);
+        queue(x, 3, 0, 1, 2);
         due("back()", x.back(), 0);
         queue(x, 1, 1, 2, 0);
         due("back()", x.back(), NOT);
@@ -494,6 +508,7 @@ public final class PromiseTest {
         due("open(24, 0)", x.open(24, 0), BAD);
         due("open(0, -1)", x.open(0, -1), BAD);
         due("open(0, 2)", x.open(0, 2), BAD);
+        due("open(0, 0)", told("ap1", SHUT).open(0, 0), 1);
         due("open of nobody", new MiddleQueue().open(0, 0), 0);
         due("open of nobody", new MiddleQueue().open(0, 1), 0);
     }
@@ -544,6 +559,22 @@ public final class PromiseTest {
         y.event(0, 10, 1);
         y.event(2, 5, 0);
         spareIs(y, 1, 3, NONE);
+        // The first one, and the first two.
+        MiddleQueue z = told("ap1;am9", "nnnnnfnnnnnnnnnnnnnnnnnn");
+        z.event(2, 5, 0);
+        z.event(0, 10, 1);
+        spareIs(z, 1, 0, NONE);
+        due("many(23)", z.many(23), 1);
+        z.back();
+        z.event(2, 5, 0);
+        z.event(0, 10, 1);
+        spareIs(z, 2, 0, 1);
+        // It is behind minute 23 that nobody may stand, whoever stood behind the one ahead.
+        MiddleQueue late = told("xp1", SHUT.substring(1) + "f");
+        spareIs(late, 0, NONE, NONE);
+        late.event(0, 23, 0);
+        spareIs(late, 0, NONE, NONE);
+        spareIs(told("xp2", ""), NONE, NONE, NONE);
         spareIs(new MiddleQueue(), 0, NONE, NONE);
     }
 
@@ -628,6 +659,10 @@ public final class PromiseTest {
         due("was(1, 0)", y.was(1, 0), BAD);
         due("was(0, -1)", y.was(0, -1), BAD);
         due("was(0, 2)", y.was(0, 2), BAD);
+        // The first of them may come behind the second one.
+        MiddleQueue late = told("bp9;ap9", SHUT);
+        late.seen(1, 0, 1);
+        due("was(0, 0)", late.was(0, 0), 4);
         // A third and a half part company where three stand there already.
         MiddleQueue z = told("am9;am9;am9;am9;am9;am9;ap9", SHUT);
         z.seen(0, 2, 6);
@@ -722,6 +757,14 @@ public final class PromiseTest {
         due("decades(1, 9, 0)", x.decades(1, 9, 0), BAD);
         due("decades(1, 0, -1)", x.decades(1, 0, -1), BAD);
         due("decades(1, 0, 2)", x.decades(1, 0, 2), BAD);
+        // In place of those told, however many these are.
+        MiddleQueue full = told("ap9;am9", "");
+        for (int i = 0; i < 8; i++) {
+            full.event(0, 1, i % 2);
+        }
+        due("decades(5, 0, 0)", full.decades(5, 0, 0), 2);
+        due("decades(5, 8, 0)", full.decades(5, 8, 0), told("ap9;am9", "").decades(5, 8, 0));
+        due("count(5)", full.count(5), 0);
         due("decades of nobody", new MiddleQueue().decades(1, 8, 0), 0);
         due("decades of nobody", new MiddleQueue().decades(1, 8, 1), 0);
     }
@@ -763,6 +806,11 @@ public final class PromiseTest {
         due("lose(2)", x.lose(2), 7);
         due("lose(2)", x.lose(2), NULL);
         due("put", x.put(2, 1, 0, 1), NULL);
+        x.sheet(2, 2, 4);
+        x.put(2, 2, 3, 5);
+        x.lose(2);
+        x.sheet(2, 2, 4);
+        due("a new row", x.get(2, 2, 3), 0);
     }
 
     private static void put() {
@@ -936,6 +984,14 @@ public final class PromiseTest {
         due("digest() does not tell the finding", x.digest(), before);
         say(x, 0, ";");
         due("digest() with a fault", x.digest(), digestOf(x));
+        // Where the spared events, the one let through and the minute of a window all tell.
+        x = told("ap1;am9;im1;np4", "nnnnnfnnfnnnnnnnnnnnnnnn");
+        x.event(2, 5, 0);
+        x.event(0, 10, 1);
+        x.event(0, 14, 2);
+        x.event(0, 15, 3);
+        due("spare(0)", x.spare(0), 0);
+        due("digest()", x.digest(), digestOf(x));
     }
 
     private static long h = 17;
