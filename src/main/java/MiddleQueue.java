@@ -879,7 +879,10 @@ public final class MiddleQueue {
         }
 
         static long lowered(long row, int i) {
-            return i >= 0 && i < MOST_PEOPLE && digit(row, i) > 0 ? row - (1L << (4 * i)) : row;
+            if (i < 0 || i >= MOST_PEOPLE || (row >>> (4 * i) & 15) == 0) {
+                return row;
+            }
+            return row - (1L << (4 * i));
         }
 
         static long inserted(long row, int i, int digit) {

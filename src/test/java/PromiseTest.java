@@ -447,6 +447,9 @@ public final class PromiseTest {
         x.event(1, 11, 1);
         due("alfred(0)", x.alfred(0), 1);
         due("alfred(1)", x.alfred(1), 13);
+        MiddleQueue once = told("ap2", "");
+        due("alfred(0) of one minute", once.alfred(0), 0);
+        due("alfred(1) of one minute", once.alfred(1), 1);
         due("alfred(-1)", x.alfred(-1), BAD);
         due("alfred(2)", x.alfred(2), BAD);
         MiddleQueue none = told("ap1", "");
@@ -525,6 +528,9 @@ public final class PromiseTest {
         due("let(23, 0)", x.let(23, 0), 1);
         due("let(23, 1)", x.let(23, 1), 1);
         due("count(4)", x.count(4), 8);
+        MiddleQueue last = told("ap2;am2;am1", SHUT.substring(1));
+        due("let(23, 0)", last.let(23, 0), 2);
+        due("let(23, 1)", last.let(23, 1), 1);
         due("let(5, 0)", x.let(5, 0), 0);
         due("let(5, 1)", x.let(5, 1), 0);
         due("let(-1, 0)", x.let(-1, 0), BAD);
@@ -758,6 +764,8 @@ public final class PromiseTest {
         due("decades(1, 0, -1)", x.decades(1, 0, -1), BAD);
         due("decades(1, 0, 2)", x.decades(1, 0, 2), BAD);
         // In place of those told, however many these are.
+        due("decades(1, 0, 0)", told("ap9;am9;am9", "").decades(1, 0, 0), 2);
+        due("decades(1, 0, 1)", told("ap9;am9;am9", "").decades(1, 0, 1), 1);
         MiddleQueue full = told("ap9;am9", "");
         for (int i = 0; i < 8; i++) {
             full.event(0, 1, i % 2);
