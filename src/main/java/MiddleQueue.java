@@ -39,6 +39,9 @@ public final class MiddleQueue {
     private static final int NOBODY = 12;
     private static final int SIXTEENTHS = 16;
 
+    private static final int LEAST_INT = 1 << 31;
+    private static final long LEAST_LONG = 1L << 63;
+
     private static final int LOST = -1;
     private static final int BYTES = 0;
     private static final int SHORTS = 1;
@@ -352,7 +355,7 @@ public final class MiddleQueue {
 
     public long chance(int c, int person, int what) {
         if (!isFrom0To(c, SIXTEENTHS) || !isPerson(person) || !isFrom0To(what, 1)) {
-            return Long.MIN_VALUE - BAD;
+            return LEAST_LONG - BAD;
         }
         learnServed();
         int events = told.events();
@@ -428,12 +431,12 @@ public final class MiddleQueue {
     public int get(int s, int form, int i) {
         Sheet row = sheetOf(s);
         if (row == null || !isForm(form)) {
-            return Integer.MIN_VALUE;
+            return LEAST_INT;
         }
         int finding = row.findingAt(form, i);
         if (finding != 0) {
             found(finding);
-            return Integer.MIN_VALUE;
+            return LEAST_INT;
         }
         return row.item(i);
     }

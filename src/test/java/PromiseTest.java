@@ -1,41 +1,5 @@
 // What each promise of the document says, worked out by hand: ordinary inputs, edges, wrong inputs.
-public final class PromiseTest {
-    private static final int NONE = -1, BAD = -2, NOT = -3, FULL = -4;
-    private static final int NULL = -11, INDEX = -12, CAST = -13, STORE = -14, SIZE = -15;
-    private static final int LEAST = Integer.MIN_VALUE;
-    private static final String SHUT = "nnnnnnnnnnnnnnnnnnnnnnnn";
-
-    private static int wrong = 0;
-    private static int promise = 0;
-
-    private static void due(String what, long got, long want) {
-        if (got != want) {
-            wrong++;
-            System.out.println("promise " + promise + ": " + what + " answered " + got + ", due is " + want);
-        }
-    }
-
-    private static void say(MiddleQueue x, int text, String bytes) {
-        for (int i = 0; i < bytes.length(); i++) {
-            x.type(text, bytes.charAt(i));
-        }
-    }
-
-    private static MiddleQueue told(String people, String windows) {
-        MiddleQueue x = new MiddleQueue();
-        say(x, 0, people);
-        say(x, 1, windows);
-        return x;
-    }
-
-    private static void queue(MiddleQueue x, int minute, int... who) {
-        due("many(" + minute + ")", x.many(minute), who.length);
-        for (int place = 0; place < 12; place++) {
-            due("stands(" + minute + ", " + place + ")", x.stands(minute, place),
-                    place < who.length ? who[place] : NONE);
-        }
-    }
-
+public final class PromiseTest extends Checks {
     public static void main(String[] args) {
         newObject();
         type();
@@ -74,14 +38,11 @@ public final class PromiseTest {
         write();
         count();
         digest();
-        System.out.println(wrong == 0 ? "every promise holds" : wrong + " answers are not as due");
-        if (wrong != 0) {
-            System.exit(1);
-        }
+        end("every promise holds");
     }
 
     private static void newObject() {
-        promise = 1;
+        about("promise 1");
         MiddleQueue x = new MiddleQueue();
         for (int what = 0; what <= 8; what++) {
             due("count(" + what + ")", x.count(what), 0);
@@ -100,7 +61,7 @@ public final class PromiseTest {
     }
 
     private static void type() {
-        promise = 2;
+        about("promise 2");
         MiddleQueue x = new MiddleQueue();
         due("type(-1, 97)", x.type(-1, 97), BAD);
         due("type(2, 97)", x.type(2, 97), BAD);
@@ -124,7 +85,7 @@ public final class PromiseTest {
     }
 
     private static void wipe() {
-        promise = 3;
+        about("promise 3");
         MiddleQueue x = told("ap1;a", "nb");
         due("wipe(-1)", x.wipe(-1), BAD);
         due("wipe(2)", x.wipe(2), BAD);
@@ -147,7 +108,7 @@ public final class PromiseTest {
     }
 
     private static void undo() {
-        promise = 4;
+        about("promise 4");
         MiddleQueue x = told("ap2;", "n");
         due("undo(-1)", x.undo(-1), BAD);
         due("undo(2)", x.undo(2), BAD);
@@ -165,7 +126,7 @@ public final class PromiseTest {
     }
 
     private static void fault() {
-        promise = 5;
+        about("promise 5");
         MiddleQueue x = new MiddleQueue();
         due("fault(-1)", x.fault(-1), BAD);
         due("fault(2)", x.fault(2), BAD);
@@ -204,7 +165,7 @@ public final class PromiseTest {
     }
 
     private static void person() {
-        promise = 6;
+        about("promise 6");
         MiddleQueue x = told("ap3;xw9;cm1", "");
         int[][] want = {{0, 0, 3}, {23, 1, 9}, {2, 2, 1}};
         for (int p = 0; p < 3; p++) {
@@ -221,7 +182,7 @@ public final class PromiseTest {
     }
 
     private static void window() {
-        promise = 7;
+        about("promise 7");
         MiddleQueue x = told("", "nfbt");
         for (int minute = 0; minute < 24; minute++) {
             due("window(" + minute + ")", x.window(minute), minute < 4 ? minute : 1);
@@ -235,7 +196,7 @@ public final class PromiseTest {
     }
 
     private static void event() {
-        promise = 8;
+        about("promise 8");
         MiddleQueue x = new MiddleQueue();
         int[][] bad = {{-1, 0, 0}, {3, 0, 0}, {0, -1, 0}, {0, 24, 0}, {0, 0, -1}, {0, 0, 12}};
         for (int[] row : bad) {
@@ -253,7 +214,7 @@ public final class PromiseTest {
     }
 
     private static void eventsInTheQueue() {
-        promise = 8;
+        about("promise 8");
         MiddleQueue x = told("ap9;ap9;ap9", SHUT);
         queue(x, 0, 1, 2, 0);
         x.event(1, 1, 0);
@@ -280,7 +241,7 @@ public final class PromiseTest {
     }
 
     private static void back() {
-        promise = 9;
+        about("promise 9");
         MiddleQueue x = told("ap9;ap9;ap9", SHUT);
         due("back()", x.back(), NOT);
         x.event(1, 1, 0);
@@ -301,15 +262,8 @@ public final class PromiseTest {
         due("back()", x.back(), NOT);
     }
 
-    private static void fill(MiddleQueue x, int s, int form, int... items) {
-        x.sheet(s, form, items.length);
-        for (int i = 0; i < items.length; i++) {
-            x.put(s, form, i, items[i]);
-        }
-    }
-
     private static void read() {
-        promise = 10;
+        about("promise 10");
         MiddleQueue x = told("ap9;ap9;ap9", SHUT);
         due("read(-1)", x.read(-1), BAD);
         due("read(4)", x.read(4), BAD);
@@ -334,7 +288,7 @@ public final class PromiseTest {
     }
 
     private static void stands() {
-        promise = 11;
+        about("promise 11");
         // Half of those there, cut; a third of them, cut; behind all.
         MiddleQueue x = told("ap9;ap9;ap9;aw9;am9;bp9;bw9;bw9", SHUT);
         queue(x, 0, 1, 3, 2, 0, 4);
@@ -353,7 +307,7 @@ public final class PromiseTest {
     }
 
     private static void many() {
-        promise = 12;
+        about("promise 12");
         MiddleQueue x = told("ap1;bp1;bp2", "nft");
         due("many(0)", x.many(0), 1);
         due("many(1)", x.many(1), 2);
@@ -364,7 +318,7 @@ public final class PromiseTest {
     }
 
     private static void at() {
-        promise = 13;
+        about("promise 13");
         MiddleQueue x = told("ap2;ap1;ap3;bm4", "tttn");
         x.event(0, 3, 3);
         int[][][] want = {
@@ -395,7 +349,7 @@ public final class PromiseTest {
     }
 
     private static void apart() {
-        promise = 14;
+        about("promise 14");
         MiddleQueue x = told("ap9;ap9;ap9;bp9", SHUT);
         due("apart(0, 0, 1)", x.apart(0, 0, 1), 1);
         due("apart(0, 1, 0)", x.apart(0, 1, 0), 1);
@@ -413,7 +367,7 @@ public final class PromiseTest {
     }
 
     private static void done() {
-        promise = 15;
+        about("promise 15");
         MiddleQueue x = told("ap3", "");
         due("done(0, 0)", x.done(0, 0), 2);
         due("done(0, 1)", x.done(0, 1), 2);
@@ -436,7 +390,7 @@ public final class PromiseTest {
     }
 
     private static void alfred() {
-        promise = 16;
+        about("promise 16");
         MiddleQueue x = told("ap9;am9", SHUT);
         due("alfred(0)", x.alfred(0), 0);
         due("alfred(1)", x.alfred(1), 24);
@@ -458,7 +412,7 @@ public final class PromiseTest {
     }
 
     private static void kettle() {
-        promise = 17;
+        about("promise 17");
         MiddleQueue x = told("ap9;ap9;ap9", SHUT);
         due("kettle()", x.kettle(), 7);
         x.event(0, 23, 1);
@@ -468,7 +422,7 @@ public final class PromiseTest {
     }
 
     private static void come() {
-        promise = 18;
+        about("promise 18");
         MiddleQueue x = told("cp9", "");
         due("come(0, 0)", x.come(0, 0), 0);
         due("come(0, 1)", x.come(0, 1), 8);
@@ -492,7 +446,7 @@ public final class PromiseTest {
     }
 
     private static void open() {
-        promise = 19;
+        about("promise 19");
         MiddleQueue x = told("xp1", "");
         due("open(23, 0)", x.open(23, 0), 1);
         due("open(23, 1)", x.open(23, 1), 1);
@@ -517,7 +471,7 @@ public final class PromiseTest {
     }
 
     private static void let() {
-        promise = 20;
+        about("promise 20");
         MiddleQueue x = told("ap2;am1", SHUT.substring(1));
         due("let(23, 0)", x.let(23, 0), 1);
         due("let(23, 1)", x.let(23, 1), 1);
@@ -543,7 +497,7 @@ public final class PromiseTest {
     }
 
     private static void spare() {
-        promise = 21;
+        about("promise 21");
         // The front is open in minute 5 alone; the mannerly one goes home at 10.
         MiddleQueue x = told("ap1;am9", "nnnnnfnnnnnnnnnnnnnnnnnn");
         spareIs(x, NONE, NONE, NONE);
@@ -591,7 +545,7 @@ public final class PromiseTest {
     }
 
     private static void seen() {
-        promise = 22;
+        about("promise 22");
         MiddleQueue x = new MiddleQueue();
         int[][] bad = {{-1, 0, 0}, {24, 0, 0}, {0, -1, 0}, {0, 12, 0}, {0, 0, -1}, {0, 0, 13}};
         for (int[] row : bad) {
@@ -609,7 +563,7 @@ public final class PromiseTest {
     }
 
     private static void forget() {
-        promise = 23;
+        about("promise 23");
         MiddleQueue x = told("ap9", "");
         due("forget()", x.forget(), 0);
         x.seen(0, 0, 5);
@@ -622,7 +576,7 @@ public final class PromiseTest {
     }
 
     private static void never() {
-        promise = 24;
+        about("promise 24");
         MiddleQueue x = told("ap9;ap9;ap9", SHUT);
         due("never()", x.never(), 0);
         x.event(1, 1, 0);
@@ -643,7 +597,7 @@ public final class PromiseTest {
     }
 
     private static void was() {
-        promise = 25;
+        about("promise 25");
         MiddleQueue x = told("ap9;ap9", SHUT);
         due("was(1, 0)", x.was(1, 0), 7);
         due("was(1, 1)", x.was(1, 1), 1022);
@@ -676,7 +630,7 @@ public final class PromiseTest {
     }
 
     private static void ask() {
-        promise = 26;
+        about("promise 26");
         MiddleQueue x = told("ap3", "");
         due("ask(0)", x.ask(0), 3);
         x.seen(4, 0, 0);
@@ -699,7 +653,7 @@ public final class PromiseTest {
     }
 
     private static void chance() {
-        promise = 27;
+        about("promise 27");
         MiddleQueue x = told("ap1;xm9", "n");
         chanceIs(x, 5, 0, 1, 1);
         chanceIs(x, 5, 1, 0, 1);
@@ -716,7 +670,7 @@ public final class PromiseTest {
         }
         chanceIs(x, 1, 0, 2562890625L, 4294967296L);
         chanceIs(x, 8, 0, 1, 256);
-        long bad = Long.MIN_VALUE + 2;
+        long bad = LONG_BAD;
         due("chance(-1, 0, 0)", x.chance(-1, 0, 0), bad);
         due("chance(17, 0, 0)", x.chance(17, 0, 0), bad);
         due("chance(4, -1, 0)", x.chance(4, -1, 0), bad);
@@ -734,7 +688,7 @@ public final class PromiseTest {
     }
 
     private static void decades() {
-        promise = 28;
+        about("promise 28");
         String people = "ap3;bw2;cm4;dp9;ep1;fp2;gw3";
         String windows = "nnftbnftbt";
         int[] seeds = {0, 1, 2, 7, -1, 123456789, Integer.MAX_VALUE, Integer.MIN_VALUE};
@@ -778,7 +732,7 @@ public final class PromiseTest {
     }
 
     private static void sheet() {
-        promise = 29;
+        about("promise 29");
         MiddleQueue x = new MiddleQueue();
         due("sheet(-1, 0, 1)", x.sheet(-1, 0, 1), BAD);
         due("sheet(4, 0, 1)", x.sheet(4, 0, 1), BAD);
@@ -803,7 +757,7 @@ public final class PromiseTest {
     }
 
     private static void lose() {
-        promise = 30;
+        about("promise 30");
         MiddleQueue x = new MiddleQueue();
         due("lose(-1)", x.lose(-1), BAD);
         due("lose(4)", x.lose(4), BAD);
@@ -822,7 +776,7 @@ public final class PromiseTest {
     }
 
     private static void put() {
-        promise = 31;
+        about("promise 31");
         MiddleQueue x = new MiddleQueue();
         due("put(-1, 0, 0, 0)", x.put(-1, 0, 0, 0), BAD);
         due("put(4, 0, 0, 0)", x.put(4, 0, 0, 0), BAD);
@@ -853,7 +807,7 @@ public final class PromiseTest {
     }
 
     private static void get() {
-        promise = 32;
+        about("promise 32");
         MiddleQueue x = new MiddleQueue();
         due("get(-1, 0, 0)", x.get(-1, 0, 0), LEAST);
         due("get(4, 0, 0)", x.get(4, 0, 0), LEAST);
@@ -876,7 +830,7 @@ public final class PromiseTest {
     }
 
     private static void copy() {
-        promise = 33;
+        about("promise 33");
         int most = Integer.MAX_VALUE;
         MiddleQueue x = new MiddleQueue();
         due("copy(-1, ..)", x.copy(-1, 0, 0, 0, 0), BAD);
@@ -900,25 +854,19 @@ public final class PromiseTest {
         }
         due("count(8)", x.count(8), 2);
         due("nothing, at the ends", x.copy(0, 5, 1, 3, 0), 1);
-        items(x, 1, 0, 0, 0);
+        items(x, 1, 2, 0, 0, 0);
         due("copy(0, 3, 1, 1, 2)", x.copy(0, 3, 1, 1, 2), 1);
-        items(x, 1, 0, 13, 14);
-        items(x, 0, 10, 11, 12, 13, 14);
+        items(x, 1, 2, 0, 13, 14);
+        items(x, 0, 2, 10, 11, 12, 13, 14);
         due("upon itself, up", x.copy(0, 0, 0, 1, 4), 1);
-        items(x, 0, 10, 10, 11, 12, 13);
+        items(x, 0, 2, 10, 10, 11, 12, 13);
         due("upon itself, down", x.copy(0, 1, 0, 0, 4), 1);
-        items(x, 0, 10, 11, 12, 13, 13);
+        items(x, 0, 2, 10, 11, 12, 13, 13);
         due("count(8)", x.count(8), 2);
     }
 
-    private static void items(MiddleQueue x, int s, int... want) {
-        for (int i = 0; i < want.length; i++) {
-            due("item " + i + " of " + s, x.get(s, 2, i), want[i]);
-        }
-    }
-
     private static void write() {
-        promise = 34;
+        about("promise 34");
         MiddleQueue x = told("ap9;ap9;ap9", SHUT);
         due("write(-1, 0)", x.write(-1, 0), BAD);
         due("write(24, 0)", x.write(24, 0), BAD);
@@ -931,24 +879,24 @@ public final class PromiseTest {
         x.event(0, 1, 2);
         fill(x, 0, 2, 9, 9, 9, 9, 9);
         due("write(0, 0)", x.write(0, 0), 5);
-        items(x, 0, 1, 2, 0, -1, -1);
+        items(x, 0, 2, 1, 2, 0, -1, -1);
         due("write(1, 0)", x.write(1, 0), 5);
-        items(x, 0, 1, 0, -1, -1, -1);
+        items(x, 0, 2, 1, 0, -1, -1, -1);
         fill(x, 0, 2, 9, 9);
         due("write(0, 0)", x.write(0, 0), 2);
-        items(x, 0, 1, 2);
+        items(x, 0, 2, 1, 2);
         x.sheet(0, 2, 0);
         due("write to none", x.write(0, 0), 0);
         fill(x, 1, 2, 8, 8, 8, 8, 8, 8, 8, 8, 8, 8, 8, 8, 8, 8);
         due("write to 14", x.write(0, 1), 12);
-        items(x, 1, 1, 2, 0, -1, -1, -1, -1, -1, -1, -1, -1, -1, 8, 8);
+        items(x, 1, 2, 1, 2, 0, -1, -1, -1, -1, -1, -1, -1, -1, -1, 8, 8);
         x.sheet(2, 0, 12);
         due("write to bytes", x.write(0, 2), 12);
         due("a byte's sign", x.get(2, 0, 11), -1);
     }
 
     private static void count() {
-        promise = 35;
+        about("promise 35");
         MiddleQueue x = told("ap1;bp2;cp9", "nfb");
         x.event(0, 20, 11);
         x.event(2, 1, 0);
@@ -973,25 +921,25 @@ public final class PromiseTest {
     }
 
     private static void digest() {
-        promise = 36;
-        MiddleQueue x = new MiddleQueue();
-        due("digest() of a new one", x.digest(), digestOf(x));
-        x = told("ap4;am2;bp3;dw1;ep2;xp1", "nftb");
-        due("digest()", x.digest(), digestOf(x));
-        x.event(1, 3, 1);
-        x.event(0, 9, 0);
-        x.event(2, 4, 2);
-        due("digest()", x.digest(), digestOf(x));
+        about("promise 36");
+        digestIs(new MiddleQueue());
+        String people = "ap4;am2;bp3;dw1;ep2;xp1";
+        digestIs(told(people, "nftb"));
+        MiddleQueue x = withEvents(people);
+        digestIs(x);
+        x = withEvents(people);
         x.seen(0, 0, 0);
-        x.get(0, 0, 0);
-        due("digest()", x.digest(), digestOf(x));
-        due("count(8)", x.count(8), 1);
+        digestIs(x);
+        x = withEvents(people);
+        say(x, 0, ";");
+        digestIs(x);
+        x = withEvents(people);
         long before = x.digest();
+        x.get(0, 0, 0);
+        due("count(8)", x.count(8), 1);
         x.put(0, 0, 0, 0);
         x.lose(0);
         due("digest() does not tell the finding", x.digest(), before);
-        say(x, 0, ";");
-        due("digest() with a fault", x.digest(), digestOf(x));
         // Where the spared events, the one let through and the minute of a window all tell.
         x = told("ap1;am9;im1;np4", "nnnnnfnnfnnnnnnnnnnnnnnn");
         x.event(2, 5, 0);
@@ -999,55 +947,18 @@ public final class PromiseTest {
         x.event(0, 14, 2);
         x.event(0, 15, 3);
         due("spare(0)", x.spare(0), 0);
+        digestIs(x);
+    }
+
+    private static MiddleQueue withEvents(String people) {
+        MiddleQueue x = told(people, "nftb");
+        x.event(1, 3, 1);
+        x.event(0, 9, 0);
+        x.event(2, 4, 2);
+        return x;
+    }
+
+    private static void digestIs(MiddleQueue x) {
         due("digest()", x.digest(), digestOf(x));
-    }
-
-    private static long h = 17;
-
-    private static void mix(long value) {
-        h = 31 * h + value;
-    }
-
-    private static long digestOf(MiddleQueue x) {
-        h = 17;
-        for (int what = 0; what <= 7; what++) {
-            mix(x.count(what));
-        }
-        mix(x.fault(0));
-        mix(x.fault(1));
-        for (int minute = 0; minute < 24; minute++) {
-            mix(x.window(minute));
-            mix(x.many(minute));
-            mix(x.stands(minute, 0));
-            mix(x.stands(minute, 4));
-        }
-        for (int p = 0; p < x.count(0); p++) {
-            digestPerson(x, p);
-        }
-        long[] rest = {x.alfred(0), x.alfred(1), x.kettle(), x.open(8, 0), x.open(8, 1), x.let(8, 0), x.let(8, 1),
-            x.spare(-1), x.spare(0), x.never(), x.decades(7, 6, 0), x.decades(7, 6, 1)};
-        for (long value : rest) {
-            mix(value);
-        }
-        return h;
-    }
-
-    private static void digestPerson(MiddleQueue x, int p) {
-        for (int what = 0; what <= 2; what++) {
-            mix(x.person(p, what));
-        }
-        for (int minute : new int[] {0, 6, 13, 23}) {
-            for (int what = 0; what <= 2; what++) {
-                mix(x.at(minute, p, what));
-            }
-        }
-        for (int what = 0; what <= 2; what++) {
-            mix(x.done(p, what));
-        }
-        long[] rest = {x.come(p, 0), x.come(p, 1), x.was(p, 0), x.was(p, 1), x.ask(p), x.chance(5, p, 0),
-            x.chance(5, p, 1), p == 0 ? 0 : x.apart(9, 0, p)};
-        for (long value : rest) {
-            mix(value);
-        }
     }
 }

@@ -3,7 +3,8 @@ import java.util.Random;
 // Runs of calls drawn by a fixed seed, each call compared with the Reference.
 public final class RandomTest {
     private static final int RUNS = 400;
-    private static final int CALLS = 500;
+    // The last round of a run may make some eighty calls more, and behind the 512th nothing is promised.
+    private static final int CALLS = 420;
     private static final String[] NAMES = {"type", "wipe", "undo", "fault", "person", "window", "event", "back",
         "read", "stands", "many", "at", "apart", "done", "alfred", "kettle", "come", "open", "let", "spare", "seen",
         "forget", "never", "was", "ask", "chance", "decades", "sheet", "lose", "put", "get", "copy", "write", "count"};
