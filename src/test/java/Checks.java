@@ -85,7 +85,7 @@ abstract class Checks {
         }
     }
 
-    /** The digest of an object, by its other answers; some 450 calls of the 512 for twelve people. */
+    /** The digest of an object, by its other answers; 430 calls of the 512 for twelve people. */
     static long digestOf(MiddleQueue x) {
         h = 17;
         for (int count = 0; count <= 7; count++) {
@@ -95,7 +95,8 @@ abstract class Checks {
         for (int minute = 0; minute < 24; minute++) {
             mix(x.window(minute), x.many(minute), x.stands(minute, 0), x.stands(minute, 4));
         }
-        for (int p = 0; p < x.count(0); p++) {
+        int people = x.count(0);
+        for (int p = 0; p < people; p++) {
             digestPerson(x, p);
         }
         mix(x.alfred(0), x.alfred(1), x.kettle(), x.open(8, 0), x.open(8, 1), x.let(8, 0), x.let(8, 1),
