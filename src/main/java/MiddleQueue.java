@@ -709,10 +709,8 @@ public final class MiddleQueue {
         return product;
     }
 
+    // What is below is a power of two, so halving is all that can be done; nothing comes to 0 by 1.
     private static long inLowestTerms(long above, int belowTwos, int what) {
-        if (above == 0) {
-            return what == 0 ? 0 : 1;
-        }
         long top = above;
         int twos = belowTwos;
         for (int halved = 0; halved < belowTwos && (top & 1) == 0; halved++) {

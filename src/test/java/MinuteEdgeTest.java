@@ -5,6 +5,7 @@ public final class MinuteEdgeTest extends Checks {
 
     public static void main(String[] args) {
         eightEvents();
+        lastEventUndone();
         notInTheQueue();
         firstItsEvents();
         oneByOne();
@@ -49,6 +50,29 @@ public final class MinuteEdgeTest extends Checks {
         due("back() of none again", x.back(), NOT);
         due("count(4)", x.count(4), 0);
         due("event behind it", x.event(0, 0, 0), 1);
+    }
+
+    private static void lastEventUndone() {
+        about("The last EVENT is undone: how many are left; NOT: there is none");
+        MiddleQueue x = told("am9;am9;am9", SHUT);
+        x.event(FRONT, 5, 1);
+        x.event(FRONT, 5, 2);
+        queue(x, 5, 2, 1, 0);
+        due("back()", x.back(), 1);
+        queue(x, 5, 1, 0, 2);
+        // In its place one of another minute: of the undone one nothing is left.
+        due("event(1, 7, 2)", x.event(FRONT, 7, 2), 2);
+        queue(x, 5, 1, 0, 2);
+        queue(x, 6, 1, 0, 2);
+        queue(x, 7, 2, 1, 0);
+        due("back()", x.back(), 1);
+        due("back()", x.back(), 0);
+        queue(x, 23, 0, 1, 2);
+        due("back() of none", x.back(), NOT);
+        queue(x, 23, 0, 1, 2);
+        due("event(0, 9, 0)", x.event(HOME, 9, 0), 1);
+        queue(x, 8, 0, 1, 2);
+        queue(x, 9, 1, 2);
     }
 
     private static void notInTheQueue() {

@@ -16,6 +16,7 @@ public final class PlanEdgeTest extends Checks {
         spareTwo();
         spareTheLeastRow();
         spareBehindMinute23();
+        eighthEvent();
         end("the edges of the plans hold");
     }
 
@@ -310,5 +311,25 @@ public final class PlanEdgeTest extends Checks {
         x.event(HOME, 23, 0);
         x.event(HOME, 23, 1);
         spareIs(x, 0, NONE, NONE);
+    }
+
+    // Behind seven that do nothing: the second one has to be first in minute 5 to be served.
+    private static void eighthEvent() {
+        about("COME, OPEN, LET: all else is as it is told, the eighth of EVENTS, too");
+        MiddleQueue x = told("am2;am1", only(5, 'f'));
+        more(x, 7, HOME, 0, 0);
+        comeIs(x, 1, NONE, NONE);
+        openIs(x, 5, 2, 1);
+        letIs(x, 4, 1, 1);
+        x.event(FRONT, 5, 1);
+        comeIs(x, 1, 4, 1);
+        openIs(x, 5, 1, 1);
+        letIs(x, 4, 0, 1);
+        x.back();
+        x.event(BACK, 5, 1);
+        comeIs(x, 1, NONE, NONE);
+        openIs(x, 5, 2, 1);
+        letIs(x, 4, 0, 0);
+        letIs(x, 5, 1, 1);
     }
 }

@@ -9,6 +9,7 @@ public final class SeenEdgeTest extends Checks {
         never();
         sorts();
         parcels();
+        eighthEvent();
         ask();
         askOfNone();
         chance();
@@ -180,6 +181,32 @@ public final class SeenEdgeTest extends Checks {
         due("of the twelfth", told(times("am9", 12), SHUT).was(11, 1), 1022);
     }
 
+    // The eighth of the events is what tells, in the days of another sort and parcel, too.
+    private static void eighthEvent() {
+        about("SORT, PARCELS, ASK: in place of one's own, and all else as it is told");
+        MiddleQueue x = told("am9;am9;am9;am3", SHUT);
+        for (int e = 1; e <= 7; e++) {
+            x.event(HOME, 0, 0);
+        }
+        x.seen(20, 0, 2);
+        due("was(3, 0) without the eighth", x.was(3, 0), 0);
+        due("was(3, 1) without the eighth", x.was(3, 1), 0);
+        x.event(FRONT, 20, 2);
+        due("was(3, 0) with the eighth", x.was(3, 0), 7);
+        due("was(3, 1) with the eighth", x.was(3, 1), 1022);
+        x.back();
+        due("was(3, 0) without it again", x.was(3, 0), 0);
+        x.event(BACK, 20, 2);
+        due("was(3, 0) with another one", x.was(3, 0), 0);
+        x = told("am9", "f".repeat(24));
+        for (int e = 1; e <= 7; e++) {
+            x.event(FRONT, 0, 0);
+        }
+        due("ask(0) without the eighth", x.ask(0), 3);
+        x.event(HOME, 2, 0);
+        due("ask(0) with the eighth", x.ask(0), 1);
+    }
+
     private static void ask() {
         about("ASK: the MINUTE behind which the greatest number of those by which all stand alike is least");
         // Of the parcels 1 to 9, m + 1 are gone behind minute m: 4 and 5, or 5 and 4; the least minute.
@@ -190,6 +217,9 @@ public final class SeenEdgeTest extends Checks {
         due("from minute 22", told("wm5", "").ask(0), 23);
         // In the last minute alone one of the nine is gone.
         due("from minute 23", told("xm5", "").ask(0), 23);
+        // One is served in minute 0 alone, with a parcel of 1: from then on it is 8 of the 9.
+        due("of minute 0", told("am5", "f" + SHUT.substring(1)).ask(0), 0);
+        due("of minute 1", told("am5", only(1, 'f')).ask(0), 1);
         about("ASK: of like ones the least");
         due("all alike", told("xm5", SHUT).ask(0), 0);
         MiddleQueue x = told("am1", "");

@@ -2,11 +2,11 @@
 public final class SheetEdgeTest extends Checks {
     private static final int BYTES = 0, SHORTS = 1, INTS = 2;
     private static final int MOST = Integer.MAX_VALUE;
-    private static final int[] FROM_0_TO_59 = new int[60];
+    private static final int[] SIXTY = new int[60];
 
     public static void main(String[] args) {
         for (int i = 0; i < 60; i++) {
-            FROM_0_TO_59[i] = i;
+            SIXTY[i] = 100 + i;
         }
         lostAtFirst();
         sixtyItems();
@@ -97,10 +97,10 @@ public final class SheetEdgeTest extends Checks {
     private static void aNewRow() {
         about("A SHEET is a new row of a FORM with n items");
         MiddleQueue x = new MiddleQueue();
-        fill(x, 0, INTS, FROM_0_TO_59);
+        fill(x, 0, INTS, SIXTY);
         due("61 in place of them", x.sheet(0, INTS, 61), BAD);
         due("-1 in place of them", x.sheet(0, INTS, -1), SIZE);
-        items(x, 0, INTS, FROM_0_TO_59);
+        items(x, 0, INTS, SIXTY);
         due("fewer", x.sheet(0, INTS, 2), 2);
         items(x, 0, INTS, 0, 0, LEAST, LEAST);
         due("more again", x.sheet(0, INTS, 60), 60);
@@ -202,13 +202,13 @@ public final class SheetEdgeTest extends Checks {
         about("n items of SHEET s, from i on, come to SHEET t, from j on: 1");
         for (int n : new int[] {0, 1, 2, 30, 59, 60}) {
             MiddleQueue x = new MiddleQueue();
-            fill(x, 0, INTS, FROM_0_TO_59);
+            fill(x, 0, INTS, SIXTY);
             x.sheet(1, INTS, 60);
             due("copy " + n, x.copy(0, 60 - n, 1, 0, n), 1);
             for (int i = 0; i < 60; i++) {
-                due("item " + i + " of " + n, x.get(1, INTS, i), i < n ? 60 - n + i : 0);
+                due("item " + i + " of " + n, x.get(1, INTS, i), i < n ? 160 - n + i : 0);
             }
-            items(x, 0, INTS, FROM_0_TO_59);
+            items(x, 0, INTS, SIXTY);
         }
         MiddleQueue x = new MiddleQueue();
         fill(x, 3, BYTES, 1, -2, 3);
@@ -535,6 +535,38 @@ public final class SheetEdgeTest extends Checks {
         }
         x.seen(7, 0, 11);
         digestIs(x);
+        // The faults of the two texts, each alone.
+        digestIs(told("ap1;bp3;c", "nnf"));
+        digestIs(told("ap1;bp3;cm2", "nnfx"));
+        digestOfJustThese();
+    }
+
+    // Where open(), let(), spare() and decades() answer otherwise by the numbers beside those of the digest.
+    private static void digestOfJustThese() {
+        MiddleQueue x = told("im1", SHUT);
+        x.event(0, 9, 0);
+        unlike("open", x.open(8, 0), x.open(7, 0), x.open(9, 0));
+        unlike("open", x.open(8, 1), x.open(7, 1), x.open(9, 1));
+        digestIs(x);
+        x = told("am9;hm1", only(8, 'f'));
+        unlike("let", x.let(8, 0), x.let(7, 0), x.let(9, 0));
+        unlike("let", x.let(8, 1), x.let(7, 1), x.let(9, 1));
+        digestIs(x);
+        x = told("am1;am9", only(5, 'f'));
+        x.event(2, 4, 0);
+        x.event(0, 10, 1);
+        unlike("spare", x.spare(0), x.spare(1), x.spare(NONE));
+        digestIs(x);
+        x = told("cp7;am8;ap9;jw3;ew1;fp4;cw5", "nnbnbnnnbnnnfntfnnnntttn");
+        for (int what = 0; what <= 1; what++) {
+            unlike("decades", x.decades(7, 6, what), x.decades(6, 6, what), x.decades(8, 6, what));
+            unlike("decades", x.decades(7, 6, what), x.decades(7, 5, what), x.decades(7, 7, what));
+        }
+        digestIs(x);
+    }
+
+    private static void unlike(String what, int one, int other, int third) {
+        due(what + " is like the one beside it", one == other || one == third ? 1 : 0, 0);
     }
 
     private static void digestIs(MiddleQueue x) {
