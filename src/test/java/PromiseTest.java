@@ -512,7 +512,7 @@ public final class PromiseTest extends Checks {
         spareIs(x, NONE, NONE, NONE);
         due("spare(-2)", x.spare(-2), BAD);
         due("spare(2)", x.spare(2), BAD);
-        // Either of two would do: the least one.
+        // Of four the last one alone stands in the way.
         MiddleQueue y = told("ap1;am9", "nnnnnfnnnnnnnnnnnnnnnnnn");
         y.event(1, 4, 1);
         y.event(1, 4, 0);
