@@ -1190,8 +1190,9 @@ public final class MiddleQueue {
             return minute >= 0 && minute < lefts.length ? Digits.digit(lefts[minute], person) : 0;
         }
 
+        // By what is left behind the last minute, where run() ends.
         boolean isServed(int person) {
-            return leftOf(MINUTES - 1, person) == 0;
+            return Digits.digit(left, person) == 0;
         }
 
         int servedIn(int person) {

@@ -22,6 +22,9 @@ public final class LanguageTest {
         "sheet int int int", "lose int", "put int int int int", "get int int int", "copy int int int int int",
         "write int int", "count int", "digest"};
 
+    // One less than the rule's eight, which may be meant with the one who calls.
+    private static final int DEEPEST = 7;
+
     private static int wrong = 0;
 
     private static void rule(int number, boolean kept, String what) {
@@ -38,6 +41,7 @@ public final class LanguageTest {
         words(withoutComments(source));
         objects(withoutComments(source));
         lengths(source);
+        depths(withoutComments(source));
         System.out.println(wrong == 0 ? "the language is kept" : wrong + " breaches of LANGUAGE.md");
         if (wrong != 0) {
             System.exit(1);
@@ -145,5 +149,39 @@ public final class LanguageTest {
             }
         }
         rule(11, starts.size() > 80, "only " + starts.size() + " methods were found");
+    }
+
+    // By names alone: methods that share one are taken for one, so the depth found is the true one or more.
+    private static void depths(String code) {
+        TreeMap<String, TreeSet<String>> calls = new TreeMap<>();
+        Matcher method = Pattern.compile(
+                "(?ms)^( {4}| {8})(?:[\\w\\[\\]]+ )*(\\w+)\\([^()]*\\) \\{$(.*?)^\\1\\}$").matcher(code);
+        while (method.find()) {
+            Matcher call = Pattern.compile("\\b(\\w+)\\(").matcher(method.group(3));
+            TreeSet<String> called = calls.computeIfAbsent(method.group(2), name -> new TreeSet<>());
+            while (call.find()) {
+                called.add(call.group(1));
+            }
+        }
+        rule(11, calls.size() > 80, "only " + calls.size() + " methods were found");
+        for (String name : calls.keySet()) {
+            depth(name, calls, new ArrayList<>());
+        }
+    }
+
+    private static void depth(String name, TreeMap<String, TreeSet<String>> calls, List<String> above) {
+        if (!calls.containsKey(name)) {
+            return;
+        }
+        List<String> chain = new ArrayList<>(above);
+        chain.add(name);
+        rule(8, !above.contains(name), "a recursion: " + chain);
+        rule(11, chain.size() <= DEEPEST, "too deep: " + chain);
+        if (above.contains(name) || chain.size() > DEEPEST) {
+            return;
+        }
+        for (String called : calls.get(name)) {
+            depth(called, calls, chain);
+        }
     }
 }
